@@ -6,6 +6,7 @@ public final class AimsTest {
     public static void main(String[] args) {
         aheadOfAny();
         spread();
+        firstLimits();
         tooMuchForAll();
         powerless();
         kept();
@@ -81,6 +82,31 @@ public final class AimsTest {
         due.is("aimed(2), just as much as is left", x.aimed(2), 1);
         due.is("aimed(3), more than is left", x.aimed(3), -2);
         faces("within limits", x, 100, 97, 97, 0);
+    }
+
+    /** In each cell alone 500 just fit, and 420 with 81 more do not. */
+    private static void firstLimits() {
+        for (int cell = 0; cell < 4; cell++) {
+            MirrorTower even = row(6);
+            MirrorTower odd = new MirrorTower();
+            odd.sun(12, 0, 1, 9);
+            odd.dust(3);
+            odd.mirror(0, 14);
+            odd.step(false);
+            odd.dust(16);
+            for (int i = 1; i < 6; i++) {
+                odd.mirror(i, 14);
+            }
+            odd.step(false);
+            for (int other = 0; other < 4; other++) {
+                if (other != cell) {
+                    even.limit(other, 0);
+                    odd.limit(other, 0);
+                }
+            }
+            due.is("aim of 100 each at the first limit of cell " + cell, even.aim(12), 500);
+            due.is("aim of 84 each and 81 at that of cell " + cell, odd.aim(12), 420);
+        }
     }
 
     private static void tooMuchForAll() {

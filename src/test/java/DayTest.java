@@ -97,6 +97,13 @@ public final class DayTest {
         due.is("step(true) of a full store", full.step(true), 50);
         due.is("count(2): what is above is lost ahead of the run", full.count(2), 193);
         due.is("plan() at the last hour", full.plan(), 50);
+        full.step(false);
+        full.step(false);
+        due.is("count(2), full again", full.count(2), 200);
+        full.step(false);
+        due.is("count(2), no more than full", full.count(2), 200);
+        due.is("plan() of a full store", full.plan(), 22 * 50);
+        bits("of a full store", full, 2, 0xFFFFFC);
     }
 
     private static int fortyAt(MirrorTower x) {

@@ -136,6 +136,25 @@ public final class LightTest {
         due.is("shaded(5, 5, false)", x.shaded(5, 5, false), NONE);
         due.is("shaded(5, 5, true)", x.shaded(5, 5, true), NONE);
         due.is("the tower shades nobody", towerShades(), 0);
+        shadeAtEdges();
+    }
+
+    private static void shadeAtEdges() {
+        MirrorTower x = new MirrorTower();
+        int[][] places = {{0, 7}, {14, 7}, {6, 0}, {6, 14}, {6, 7}};
+        for (int[] place : places) {
+            x.mirror(place[0], place[1]);
+        }
+        int[][] steps = {{-1, 0}, {1, 0}, {0, -1}, {0, 1}, {-2, 0}, {2, 0}, {0, -2}, {0, 2}};
+        int[] middle = {1, 1, 1, 1, 1, 1, 0, 0};
+        for (int i = 0; i < steps.length; i++) {
+            x.sun(i, steps[i][0], steps[i][1], 1);
+            due.is("shaded from the edge, step " + i, x.shaded(4, i, false), middle[i]);
+        }
+        int[] outwards = {0, 1, 2, 3};
+        for (int i : outwards) {
+            due.is("shaded from beyond the edge " + i, x.shaded(i, i, false), 0);
+        }
     }
 
     private static int towerShades() {

@@ -118,6 +118,10 @@ public final class ShotsTest {
             x.shot(1, 0, 1);
             due.is("agree() with " + missed + " missed, and a shot more", x.agree(), 0);
         }
+        MirrorTower z = field(5);
+        z.shot(0b01111, 0, 0);
+        z.shot(0b10000, 0, 1);
+        due.is("agree() with 4 missed that must not count for the next shot", z.agree(), 0);
         MirrorTower y = field(6);
         y.shot(0x3F, 0, 4);
         due.is("agree() with 2 missed", y.agree(), 15);
@@ -133,6 +137,10 @@ public final class ShotsTest {
         due.is("agree(): the new one may be stuck too", x.agree(), 4);
         due.is("stuck(2)", x.stuck(2), 2);
         due.is("unsure()", x.unsure(), 3);
+        x.shot(4, 0, 1);
+        due.is("unsure() first behind a shot", x.unsure(), 2);
+        x.shot(1, 0, 1);
+        due.is("stuck(1) first behind a shot", x.stuck(1), 1);
     }
 
     /** Calls that tell no trouble of their own leave that of the latest one that does. */
