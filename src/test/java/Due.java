@@ -1,6 +1,7 @@
 /** Counts the answers that are not as due, and ends a test with 1 if there was one. */
 final class Due {
     private final String test;
+    private String about = "";
     private int looked;
     private int wrong;
 
@@ -8,11 +9,20 @@ final class Due {
         this.test = test;
     }
 
+    /** What the answers from here on are looked at for; it is told with each wrong one. */
+    void about(String words) {
+        about = " (" + words + ")";
+    }
+
+    int looked() {
+        return looked;
+    }
+
     void is(String call, long got, long want) {
         looked++;
         if (got != want) {
             wrong++;
-            System.out.println(test + ": " + call + " answered " + got + ", due is " + want);
+            System.out.println(test + about + ": " + call + " answered " + got + ", due is " + want);
         }
     }
 
