@@ -157,10 +157,11 @@ public final class MirrorTower {
     }
 
     public int comes(int hour) {
-        if (!isWithin(hour, store.hourNow(), HOURS - 1)) {
+        int now = store.hourNow();
+        if (!isWithin(hour, now, HOURS - 1)) {
             return NONE;
         }
-        return store.heatToCome(hour);
+        return cells.aimAll(hour, hour - now);
     }
 
     public int plan() {
@@ -380,14 +381,9 @@ public final class MirrorTower {
             return winds[hour] > CALM || (hour + 1 < HOURS && winds[hour + 1] > CALM);
         }
 
-        /** Without sun or in a stow no mirror has power. */
-        boolean isDark(int hour) {
-            return heights[hour] == 0 || isStowed(hour);
-        }
-
         /** The power that a mirror has in an hour when so many hours more have soiled it. */
         int powerOf(int mirror, int hour, int hoursMore) {
-            if (isDark(hour)) {
+            if (heights[hour] == 0 || isStowed(hour)) {
                 return 0;
             }
             int clean = 10 * heights[hour] + 10;
@@ -496,12 +492,10 @@ public final class MirrorTower {
             return keptPowers[cell];
         }
 
-        int heatOf(int hour, int hoursMore) {
-            return field.isDark(hour) ? 0 : aimAll(hour, hoursMore);
-        }
-
-        private int aimAll(int hour, int hoursMore) {
-            rank(hour, hoursMore);
+        /** The heat of an hour when so many hours more have soiled the mirrors. */
+        int aimAll(int hour, int hoursMore) {
+            readPowers(hour, hoursMore);
+            rank();
             System.arraycopy(limits, 0, left, 0, CELLS);
             int heat = 0;
             for (int turn = 0; turn < field.size(); turn++) {
@@ -528,13 +522,17 @@ public final class MirrorTower {
             return most;
         }
 
-        /** Puts the mirrors in order of power; of as much power the least number stays ahead. */
-        private void rank(int hour, int hoursMore) {
+        private void readPowers(int hour, int hoursMore) {
             for (int mirror = 0; mirror < field.size(); mirror++) {
-                int power = field.powerOf(mirror, hour, hoursMore);
-                powers[mirror] = power;
+                powers[mirror] = field.powerOf(mirror, hour, hoursMore);
+            }
+        }
+
+        /** Puts the mirrors in order of power; of as much power the least number stays ahead. */
+        private void rank() {
+            for (int mirror = 0; mirror < field.size(); mirror++) {
                 int turn = mirror;
-                while (turn > 0 && powers[order[turn - 1]] < power) {
+                while (turn > 0 && powers[order[turn - 1]] < powers[mirror]) {
                     order[turn] = order[turn - 1];
                     turn--;
                 }
@@ -543,7 +541,8 @@ public final class MirrorTower {
         }
 
         int bestHeat(int hour) {
-            rank(hour, 0);
+            readPowers(hour, 0);
+            rank();
             int few = Math.min(FEW, field.size());
             int sets = 1 << few;
             addUpSets(few);
@@ -647,12 +646,8 @@ public final class MirrorTower {
             return earnings;
         }
 
-        int heatToCome(int hour) {
-            return cells.heatOf(hour, hour - now);
-        }
-
         int passHour(boolean run) {
-            int held = filled(units, heatToCome(now) / UNIT);
+            int held = filled(units, cells.aimAll(now, 0) / UNIT);
             int need = run ? needed(warm) : 0;
             if (held < need) {
                 return NONE;
@@ -700,7 +695,7 @@ public final class MirrorTower {
             int most = units;
             for (int hour = now; hour < HOURS; hour++) {
                 mostHeld[hour] = most;
-                unitsIn[hour] = heatToCome(hour) / UNIT;
+                unitsIn[hour] = cells.aimAll(hour, hour - now) / UNIT;
                 most = filled(most, unitsIn[hour]);
             }
         }

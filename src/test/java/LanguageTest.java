@@ -1,6 +1,10 @@
 import java.io.IOException;
+import java.lang.reflect.Field;
+import java.lang.reflect.Modifier;
 import java.nio.file.Files;
 import java.nio.file.Path;
+import java.util.Map;
+import java.util.TreeMap;
 import java.util.regex.Matcher;
 import java.util.regex.Pattern;
 
@@ -27,7 +31,18 @@ public final class LanguageTest {
         due.is("classes inside are static",
                 countOf("(?<!static )(?<!static final )(?<!public final )\\bclass\\s", code), 0);
         due.is("at most seven parameters", countOf("\\((?:[^(),]*,){7}[^()]*\\)\\s*\\{", code), 0);
-        due.is("methods of at most sixty lines", longestMethod(code) <= 60, true);
+        Map<String, String> bodies = bodiesOf(code);
+        due.is("methods found: " + bodies.size(), bodies.size() > 40, true);
+        for (Map.Entry<String, String> method : bodies.entrySet()) {
+            due.is(method.getKey() + " has at most sixty lines",
+                    countOf("\n", method.getValue()) <= 60, true);
+            int depth = depthOf(method.getKey(), bodies, 0);
+            due.is(method.getKey() + " goes at most eight calls deep, it goes " + depth,
+                    depth <= 8, true);
+        }
+        for (Class<?> type : MirrorTower.class.getDeclaredClasses()) {
+            due.is(type.getSimpleName() + " has at most twenty fields", fieldsOf(type) <= 20, true);
+        }
         due.end();
     }
 
@@ -40,21 +55,47 @@ public final class LanguageTest {
         return found;
     }
 
-    private static int longestMethod(String code) {
-        int longest = 0;
-        int began = -1;
+    /** The lines of each method by its name; those of one name stand together. */
+    private static Map<String, String> bodiesOf(String code) {
+        Map<String, String> bodies = new TreeMap<>();
+        Pattern heads = Pattern.compile("^( {4}| {8})(?:[^ (][^(]* )?(\\w+)\\(.*\\) \\{$");
+        String name = "";
         String end = "";
-        String[] lines = code.split("\n");
-        for (int i = 0; i < lines.length; i++) {
-            Matcher head = Pattern.compile("^( {4}| {8})\\S.*\\) \\{$").matcher(lines[i]);
-            if (began < 0 && head.matches()) {
-                began = i;
+        for (String line : code.split("\n")) {
+            Matcher head = heads.matcher(line);
+            if (name.isEmpty() && head.matches()) {
+                name = head.group(2);
                 end = head.group(1) + "}";
-            } else if (began >= 0 && lines[i].equals(end)) {
-                longest = Math.max(longest, i - began + 1);
-                began = -1;
+                bodies.putIfAbsent(name, "\n");
+            } else if (line.equals(end)) {
+                name = "";
+                end = "";
+            } else if (!name.isEmpty()) {
+                bodies.merge(name, line + "\n", String::concat);
             }
         }
-        return longest;
+        return bodies;
+    }
+
+    /** How many calls stand open at once in a method, its own and the library's among them. */
+    private static int depthOf(String name, Map<String, String> bodies, int above) {
+        if (above > 50) {
+            return above;
+        }
+        int deepest = 0;
+        Matcher calls = Pattern.compile("\\b(?!(?:if|for|while|switch|return)\\b)(\\w+)\\(")
+                .matcher(bodies.getOrDefault(name, ""));
+        while (calls.find()) {
+            deepest = Math.max(deepest, depthOf(calls.group(1), bodies, above + 1));
+        }
+        return deepest + 1;
+    }
+
+    private static int fieldsOf(Class<?> type) {
+        int fields = 0;
+        for (Field field : type.getDeclaredFields()) {
+            fields += Modifier.isStatic(field.getModifiers()) ? 0 : 1;
+        }
+        return fields;
     }
 }
