@@ -447,6 +447,16 @@ final class BoundsOfTheDay {
         Fields.waitFor(x, 23);
         due.is("plan() of a new day: 7 units held and 7 that come", x.plan(), 4995 + 50);
         runs(due, x, 0, 1 | 1 << 23);
+        due.is("plan(), 9 mirrors of 80", planOfTwoHoursSoil(9), 50);
+        due.is("plan(), 8 mirrors of 80", planOfTwoHoursSoil(8), 0);
+    }
+
+    /** At hour 18, with sun in hour 20: the soil of two hours is to come, not that of the day. */
+    private static int planOfTwoHoursSoil(int mirrors) {
+        MirrorTower x = Fields.plant(mirrors, 20);
+        Fields.waitFor(x, 18);
+        x.dust(10);
+        return x.plan();
     }
 
     private static void planAsTheyAre(Due due) {
